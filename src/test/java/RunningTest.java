@@ -46,6 +46,7 @@ public final class RunningTest {
         check.due("half(0, 25)", x.half(0, 25), Check.BAD);
         check.due("half(1, 3)", x.half(1, 3), 1);
         check.due("half(4, 3)", x.half(4, 3), 0);
+        check.due("half(0, 24), the same hours again", x.half(0, 24), 0);
         check.due("half(6, 1), 10 of 3 and 30 of 4", x.half(6, 1), 1);
         check.due("half(7, 1), 30 of 3 and 10 of 4", x.half(7, 1), 0);
         // 1 clean now, 2 in order: 5 by 1 and 10 by 2 are as much.
@@ -123,6 +124,7 @@ public final class RunningTest {
         long rest = big % 65521;
         int draw = (int) (rest * rest % 65521 / 2);
         PlatesLookingIn y = Check.laid("n14,0;" + "t0,1,1,1;".repeat(7));
+        check.due("day(9999, 30, 0) is none of the faults", y.day(9999, 30, 0) > 0 ? 1 : 0, 1);
         check.due("day(9999, 1, 0)", y.day(9999, 1, 0), 1 << (draw % 7));
     }
 }
