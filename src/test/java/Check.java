@@ -1,20 +1,42 @@
 /** Counts the answers that are not as due, and ends the test by it. */
 final class Check {
     static final int BAD = -1, NO = -2, FULL = -3, NONE = -4;
+    static final int LOWEST = Integer.MIN_VALUE, HIGHEST = Integer.MAX_VALUE;
 
+    private String sentence = "";
+    private int sentences;
+    private int askedOfSentence = 1;
     private int asked;
     private int wrong;
 
+    /** What follows tests these words of the document. */
+    void edge(String words) {
+        refuseUntested();
+        sentence = "\"" + words + "\": ";
+        sentences++;
+        askedOfSentence = 0;
+    }
+
+    private void refuseUntested() {
+        if (askedOfSentence == 0) {
+            wrong++;
+            System.out.println(sentence + "nothing was asked");
+        }
+    }
+
     void due(String call, long got, long want) {
         asked++;
+        askedOfSentence++;
         if (got != want) {
             wrong++;
-            System.out.println(call + " answered " + got + ", due is " + want);
+            System.out.println(sentence + call + " answered " + got + ", due is " + want);
         }
     }
 
     void end() {
-        System.out.println((asked - wrong) + " of " + asked + " answers are as due");
+        refuseUntested();
+        String of = sentences == 0 ? "" : ", to " + sentences + " sentences of the document";
+        System.out.println((asked - wrong) + " of " + asked + " answers are as due" + of);
         if (wrong != 0 || asked == 0) {
             System.exit(1);
         }
@@ -29,7 +51,9 @@ final class Check {
     static PlatesLookingIn laid(String text) {
         PlatesLookingIn x = new PlatesLookingIn();
         writeAll(x, text);
-        x.lay();
+        if (x.lay() < 0) {
+            throw new IllegalStateException("the test's own text is not laid: " + text);
+        }
         x.wipe();
         return x;
     }
