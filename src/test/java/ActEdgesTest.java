@@ -21,6 +21,7 @@ public final class ActEdgesTest {
         undoTheLastEight();
         undoEachAct();
         undoBehindUndo();
+        untilTheLastCall();
         check.end();
     }
 
@@ -274,5 +275,15 @@ public final class ActEdgesTest {
         check.due("count(4)", x.count(4), 1);
         check.due("the first water: undo()", x.undo(), 0);
         check.due("count(4)", x.count(4), 5);
+    }
+
+    private static void untilTheLastCall() {
+        check.edge("An object is used for at most 512 calls after it has been made");
+        PlatesLookingIn x = new PlatesLookingIn();
+        for (int call = 1; call <= 510; call++) {
+            check.due("call " + call + ": turn(0)", x.turn(0), call % 2 == 1 ? 0 : 1);
+        }
+        check.due("call 511: undo()", x.undo(), 7);
+        check.due("call 512: thing(0, 5)", x.thing(0, 5), 0);
     }
 }

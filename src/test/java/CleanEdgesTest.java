@@ -145,6 +145,8 @@ public final class CleanEdgesTest {
         check.due("a plate behind a spoon that is as high", x.stands(0, 0), 0);
         x = Check.laid("n3,2;t2,1,5,1;t0,1,5,1;p0,2,1;p1,1,1;");
         check.due("a spoon over the jet", x.stands(0, 0), 0);
+        check.due("a spoon alone on the left", Check.laid("n3,1;t2,1,5,1;p0,0,1;").stands(0, 0), 0);
+        check.due("a spoon alone on the right", Check.laid("n3,1;t2,1,5,1;p0,2,1;").stands(0, 0), 0);
         x = Check.laid("n3,2;t2,1,5,1;t0,1,5,1;p0,0,1;p1,2,1;");
         check.due("behind one over the jet that is as high", x.stands(0, 0), 1);
     }
@@ -271,10 +273,14 @@ public final class CleanEdgesTest {
         check.due("ladle in 1; plates in 0, 2, 3, 4: clean()", ladleAt(1).clean(), 0b00110);
         check.due("ladle in 3; plates in 0, 1, 2, 4: clean()", ladleAt(3).clean(), 0b11000);
         check.due("ladle in 4; plates in 0, 1, 2, 3: clean()", ladleAt(4).clean(), 0b11000);
-        PlatesLookingIn x = Check.laid("n5,2;t3,1,9,1;t3,1,9,1;t0,1,9,1;t0,1,9,1;p0,0,1;p1,4,0;p2,2,0;p3,1,1;w9;a8;");
-        check.due("on both sides, the one over alone: clean()", x.clean(), 0b0100);
+        PlatesLookingIn x = Check.laid("n5,2;t3,1,9,1;t3,1,9,1;t0,1,9,1;t0,1,9,1;t0,1,9,1;"
+            + "p0,0,1;p1,4,0;p2,2,0;p3,1,1;p4,3,0;w9;a8;");
+        check.due("on both sides, the one over alone: clean()", x.clean(), 0b00100);
         x.takeOut(1);
-        check.due("taken out, it does not: clean()", x.clean(), 0b1100);
+        check.due("the right one taken out: clean()", x.clean(), 0b01100);
+        x.undo();
+        x.takeOut(0);
+        check.due("the left one taken out: clean()", x.clean(), 0b10100);
     }
 
     private static void strikesOver() {
@@ -310,6 +316,8 @@ public final class CleanEdgesTest {
         for (int what = 0; what <= 3; what++) {
             check.due("stands(0, " + what + ")", x.stands(0, what), answers[what]);
         }
+        x.putIn(1, 2, 1);
+        check.due("in: stands(1, 3)", x.stands(1, 3), 1);
         x.takeOut(0);
         check.due("taken out: stands(0, 0)", x.stands(0, 0), NO);
         x.wash(0);

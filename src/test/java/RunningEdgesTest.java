@@ -277,6 +277,7 @@ public final class RunningEdgesTest {
         dueLikely(new int[] {0, 10, 10, 10}, 0, 1);
         dueLikely(new int[] {10, 1, 10, 10}, 1, 1);
         dueLikely(new int[] {5, 0, 1, 1}, 0, 1);
+        dueLikely(new int[] {9, 0, 1, 1}, 0, 1);
         dueLikely(new int[] {5, 1, 0, 10}, 1, 1);
         dueLikely(new int[] {5, 1, 10, 0}, 1, 1);
         dueLikely(new int[] {10, 10, 10, 10}, 1, 1);

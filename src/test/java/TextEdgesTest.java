@@ -187,6 +187,7 @@ public final class TextEdgesTest {
         check.dueFault(ONE + "p0,11,0;", NONE);
         check.dueFault(ONE + "p0,12,0;", 9);
         check.due("a text with n, then one without: count(1)", laidTwice("n3,0;" + ONE, ONE).count(1), 12);
+        check.due("a text with n, then one without: count(2)", laidTwice("n3,0;" + ONE, ONE).count(2), 5);
     }
 
     /** What the first text told must not be left behind for the second. */
@@ -452,11 +453,10 @@ public final class TextEdgesTest {
     private static void layEmptiesTheRest() {
         check.edge("LAID: how many THINGS; nothing washed, SEEN, UNDONE, KEPT.");
         PlatesLookingIn x = new PlatesLookingIn();
-        x.seen(0, 0);
+        x.seen(0, 1);
         x.keep();
         x.keep();
         x.wash(0);
-        x.order(-1);
         Check.writeAll(x, ONE + "p0,4,1;");
         check.due("lay() of one", x.lay(), 1);
         check.due("nothing washed: count(6)", x.count(6), 0);
@@ -468,12 +468,14 @@ public final class TextEdgesTest {
         check.due("nothing kept: count(9)", x.count(9), 0);
         check.due("nothing kept: back()", x.back(), NO);
         check.due("two can be kept again", x.keep() + x.keep(), 1 + 2);
-        check.due("it can be seen again: seen(0, 1)", x.seen(0, 1), 1);
-        check.due("the order is the new one's: order(1)", x.order(1), NONE);
+        check.due("it can be seen again: seen(0, 0)", x.seen(0, 0), 1);
+        check.due("as it is seen now, dirt 1: strong()", x.strong(), 0);
+        check.due("order(-1)", x.order(-1), 1);
         x.wipe();
         Check.writeAll(x, ONE.repeat(7));
         check.due("lay() of seven", x.lay(), 7);
         check.due("none is in: count(5)", x.count(5), 0);
+        check.due("the order is the new one's: order(-1)", x.order(-1), 7);
     }
 
     private static void thing() {

@@ -212,6 +212,9 @@ public final class WouldBeEdgesTest {
     private static void orderNotOfWashed() {
         check.edge("an order of all THINGS (not those washed)");
         PlatesLookingIn x = Check.laid("n7,6;" + "t0,1,1,1;".repeat(7));
+        check.due("none washed: order(-1)", x.order(-1), 7);
+        check.due("none washed: ways(0)", x.ways(0), 7);
+        check.due("none washed: ways(1)", x.ways(1), 7);
         x.wash(0);
         x.wash(3);
         x.wash(6);
