@@ -228,6 +228,10 @@ public final class WouldBeEdgesTest {
         x.undo();
         check.due("washed no more: order(4)", x.order(4), 6);
         check.due("washed no more: ways(0)", x.ways(0), 5);
+        x.undo();
+        x.undo();
+        check.due("none is washed any more: order(-1)", x.order(-1), 7);
+        check.due("none is washed any more: order(6)", x.order(6), 6);
     }
 
     private static void orderOfTheEmptyRack() {
