@@ -19,6 +19,7 @@ public final class FaceTest {
         constants();
         insideClasses();
         words();
+        makesOnlyInConstructors();
         check.end();
     }
 
@@ -103,6 +104,23 @@ public final class FaceTest {
         }
         for (int i = 0; i < source.length(); i++) {
             if (source.charAt(i) > 126) check.due("sign at " + i, source.charAt(i), 126);
+        }
+    }
+
+    /** All calls of a run share one room, so what is made is made with the object. */
+    private static void makesOnlyInConstructors() throws IOException {
+        int made = 0;
+        for (String line : Files.readAllLines(Path.of(SOURCE))) {
+            if (!line.matches(".*\\bnew \\w.*") || line.strip().startsWith("//")) continue;
+            made++;
+            boolean isField = line.matches(" +(private )?final [\\w\\[\\]]+ \\w+ = new .*");
+            boolean isInConstructor = line.matches(" +this\\.\\w+ = new .*");
+            check.due("made with the object:" + line, isField || isInConstructor ? 1 : 0, 1);
+        }
+        check.due("something is made", made > 0 ? 1 : 0, 1);
+        for (String word : new String[] {"clone\\(", "copyOf", "toCharArray", "substring", "StringBuilder"}) {
+            boolean isThere = Pattern.compile(word).matcher(Files.readString(Path.of(SOURCE))).find();
+            check.due("'" + word + "', which makes one, in the source", isThere ? 1 : 0, 0);
         }
     }
 }
